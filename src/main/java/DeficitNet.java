@@ -394,7 +394,7 @@ public final class DeficitNet {
         Port port = ports[w];
         packet.port = w;
         if (queuedOf(port, packet.flow) == 0) {
-            port.enlist(packet.flow);
+            port.append(packet.flow);
         }
         port.queue[port.queued] = p;
         port.queued++;
@@ -464,7 +464,7 @@ public final class DeficitNet {
         // The waiting packets of all flows, oldest first; a flow's own are met in their order.
         final int[] queue = new int[MAX_ROOM];
         final int[] list = new int[MAX_FLOWS];
-        // 0 for every flow that is not listed.
+        // 0 for every flow that is not listed, so one that is appended begins with 0.
         final int[] deficits = new int[MAX_FLOWS];
 
         void lay(int newFrom, int newTo, int newCost, int newSlowness, int newDelay) {
@@ -480,11 +480,6 @@ public final class DeficitNet {
             listed = 0;
             firstIsServed = false;
             Arrays.fill(deficits, 0);
-        }
-
-        void enlist(int f) {
-            deficits[f] = 0;
-            append(f);
         }
 
         void append(int f) {
