@@ -43,7 +43,8 @@ public final class DeficitNet {
 
     private static final int SLOTS = MAX_FLOWS + MAX_PACKETS;
 
-    // A deficit grows by 1 or more at every look but a served flow's first, so none is passed over more than MAX_SIZE times.
+    // A deficit grows by 1 or more at every look but a served flow's first,
+    // so no flow is passed over more than MAX_SIZE times before one of its packets can go.
     private static final int MAX_LOOKS = MAX_FLOWS * (MAX_SIZE + 1);
 
     private final int[][] distances;
@@ -289,13 +290,13 @@ public final class DeficitNet {
     }
 
     private void start(int f) {
-        record(START, f, flows[f].next);
+        remember(START, f, flows[f].next);
         fill(f);
     }
 
     private void timeOut(int f) {
         Flow flow = flows[f];
-        record(TIMEOUT, f, flow.base);
+        remember(TIMEOUT, f, flow.base);
         flow.timeouts++;
         flow.next = flow.base;
         fill(f);
@@ -304,7 +305,7 @@ public final class DeficitNet {
     private void leave(int p) {
         Packet packet = packets[p];
         Port port = ports[packet.port];
-        record(LEAVE, packet.port, packet.label());
+        remember(LEAVE, packet.port, packet.label());
         port.on = NONE;
         agenda.set(MAX_FLOWS + p, ARRIVE, nowTick + port.delay);
         if (port.queued > 0) {
@@ -315,7 +316,7 @@ public final class DeficitNet {
     private void arrive(int p) {
         Packet packet = packets[p];
         int node = ports[packet.port].to;
-        record(ARRIVE, node, packet.label());
+        remember(ARRIVE, node, packet.label());
         if (node != packet.end) {
             put(p, node);
             return;
@@ -443,7 +444,7 @@ public final class DeficitNet {
         return place;
     }
 
-    private void record(int kind, int subject, int number) {
+    private void remember(int kind, int subject, int number) {
         System.arraycopy(latest, 0, latest, 1, TRACE_LENGTH - 1);
         latest[0] = nowTick * TICK_UNIT + kind * KIND_UNIT + subject * SUBJECT_UNIT + number;
     }
