@@ -34,7 +34,7 @@ final class Checks {
     }
 
     /** Steps once and looks at what came. */
-    static void next(DeficitNet net, long tick, int kind, int subject, int number) {
+    static void next(Net net, long tick, int kind, int subject, int number) {
         String name = "event of kind " + kind + " at tick " + tick;
         due("step() to the " + name, net.step(), true);
         due("now() after the " + name, net.now(), tick);
@@ -45,7 +45,7 @@ final class Checks {
         }
     }
 
-    static void noMore(DeficitNet net) {
+    static void noMore(Net net) {
         due("step() without an event", net.step(), false);
     }
 

@@ -5,11 +5,10 @@ import java.util.Random;
 /** Random runs of at most 512 calls, with fixed seeds, answered by the class and by the model. */
 public final class ModelTest {
     private static final int RUNS = 3000;
-    private static final int CALLS = 512;
     private static final int[] ODD = {-1, -2, Integer.MIN_VALUE, Integer.MAX_VALUE, 64, 1000000};
 
     private final Random random;
-    private final DeficitNet net = new DeficitNet();
+    private final Net net = new Net();
     private final Model model = new Model();
     private final List<String> calls = new ArrayList<>();
     private final boolean dense;
@@ -47,7 +46,7 @@ public final class ModelTest {
 
     private void compare() {
         build();
-        while (same && calls.size() < CALLS) {
+        while (goesOn()) {
             int dice = random.nextInt(1000);
             if (dice < 3) {
                 net.clear();
@@ -65,6 +64,10 @@ public final class ModelTest {
                 ask();
             }
         }
+    }
+
+    private boolean goesOn() {
+        return same && calls.size() < Net.MOST_CALLS;
     }
 
     private void build() {
@@ -87,7 +90,7 @@ public final class ModelTest {
     }
 
     private void build(int which) {
-        if (!same) {
+        if (!goesOn()) {
             return;
         }
         if (which == 0) {

@@ -14,7 +14,7 @@ public final class PortsTest {
         Checks.finish("PortsTest");
     }
 
-    private static void port(DeficitNet net, int on, int[] waiting, int[] deficits) {
+    private static void port(Net net, int on, int[] waiting, int[] deficits) {
         String when = " at tick " + net.now();
         int sum = 0;
         for (int f = 0; f < waiting.length; f++) {
@@ -27,7 +27,7 @@ public final class PortsTest {
     }
 
     private static void turnsByDeficits() {
-        DeficitNet net = new DeficitNet();
+        Net net = new Net();
         net.link(0, 1, 1, 1, 40);
         net.shape(0, 4, 8);
         net.flow(0, 1, 2, 6);
@@ -60,7 +60,7 @@ public final class PortsTest {
     }
 
     private static void smallQuantumNeedsManyLooks() {
-        DeficitNet net = new DeficitNet();
+        Net net = new Net();
         net.link(0, 1, 1, 1, 40);
         net.shape(0, 1, 8);
         for (int f = 0; f < 6; f++) {
@@ -78,7 +78,7 @@ public final class PortsTest {
     }
 
     private static void roomIsForAllFlows() {
-        DeficitNet net = new DeficitNet();
+        Net net = new Net();
         net.link(0, 1, 1, 16, 40);
         net.shape(0, 16, 2);
         net.flow(0, 1, 2, 1);
@@ -94,7 +94,7 @@ public final class PortsTest {
     }
 
     private static void answersHaveSizeOne() {
-        DeficitNet net = new DeficitNet();
+        Net net = new Net();
         net.link(0, 1, 1, 3, 0);
         net.shape(1, 1, 1);
         net.flow(0, 1, 1, 8);
@@ -117,7 +117,7 @@ public final class PortsTest {
     }
 
     private static void packetsAreLostOnTheWay() {
-        DeficitNet net = new DeficitNet();
+        Net net = new Net();
         net.link(0, 1, 1, 1, 0);
         net.link(1, 2, 1, 16, 40);
         net.shape(2, 8, 1);
@@ -146,8 +146,8 @@ public final class PortsTest {
 
     private static final int[] WRONG = {-2, Integer.MIN_VALUE, Integer.MAX_VALUE};
 
-    private static DeficitNet small() {
-        DeficitNet net = new DeficitNet();
+    private static Net small() {
+        Net net = new Net();
         net.link(0, 1, 1, 1, 0);
         net.flow(0, 1, 4, 1);
         net.run(2);
@@ -155,7 +155,7 @@ public final class PortsTest {
     }
 
     private static void promise13Wrong() {
-        DeficitNet net = small();
+        Net net = small();
         Checks.due("waiting(0, 0)", net.waiting(0, 0), 2);
         Checks.due("waiting(0, NONE)", net.waiting(0, NONE), 2);
         Checks.due("waiting(1, NONE)", net.waiting(1, NONE), 0);
@@ -171,7 +171,7 @@ public final class PortsTest {
     }
 
     private static void promise14Wrong() {
-        DeficitNet net = small();
+        Net net = small();
         Checks.due("deficit(0, 0)", net.deficit(0, 0), 7);
         Checks.due("deficit(1, 0)", net.deficit(1, 0), 0);
         Checks.due("deficit(2, 0)", net.deficit(2, 0), NONE);
@@ -185,7 +185,7 @@ public final class PortsTest {
     }
 
     private static void promise15Wrong() {
-        DeficitNet net = small();
+        Net net = small();
         Checks.due("onPort(0)", net.onPort(0), 1);
         Checks.due("onPort(1)", net.onPort(1), NONE);
         Checks.due("onPort(2)", net.onPort(2), NONE);

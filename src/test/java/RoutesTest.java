@@ -13,7 +13,7 @@ public final class RoutesTest {
     }
 
     private static void promise11Distance() {
-        DeficitNet net = new DeficitNet();
+        Net net = new Net();
         net.link(0, 1, 10, 1, 1);
         Checks.due("one link", net.distance(0, 1), 10);
         Checks.due("back", net.distance(1, 0), 10);
@@ -33,7 +33,7 @@ public final class RoutesTest {
     }
 
     private static void promise11LongestPath() {
-        DeficitNet net = new DeficitNet();
+        Net net = new Net();
         for (int v = 0; v < 7; v++) {
             net.link(v, v + 1, 100, 1, 1);
         }
@@ -44,7 +44,7 @@ public final class RoutesTest {
     }
 
     private static void promise12WayTakesTheLeastPort() {
-        DeficitNet net = new DeficitNet();
+        Net net = new Net();
         net.link(1, 0, 5, 1, 1);
         net.link(0, 1, 5, 1, 1);
         net.link(0, 2, 2, 1, 1);
@@ -56,7 +56,7 @@ public final class RoutesTest {
     }
 
     private static void promise12WayIsNotTheCheapestLink() {
-        DeficitNet net = new DeficitNet();
+        Net net = new Net();
         net.link(0, 1, 1, 1, 1);
         net.link(1, 3, 9, 1, 1);
         net.link(0, 2, 4, 1, 1);
@@ -70,7 +70,7 @@ public final class RoutesTest {
     }
 
     private static void wrongNodes() {
-        DeficitNet net = new DeficitNet();
+        Net net = new Net();
         net.link(0, 7, 1, 1, 1);
         int[] wrong = {-1, 8, Integer.MIN_VALUE, Integer.MAX_VALUE};
         for (int w : wrong) {
@@ -87,7 +87,7 @@ public final class RoutesTest {
     }
 
     private static void theyStayWhenBegun() {
-        DeficitNet net = new DeficitNet();
+        Net net = new Net();
         net.link(0, 7, 3, 1, 1);
         net.flow(0, 7, 10, 1);
         net.run(20);
