@@ -1,3 +1,5 @@
+import java.util.List;
+
 /** Counts and prints the answers that are not the ones due. */
 final class Checks {
     static final int START = 1;
@@ -27,6 +29,19 @@ final class Checks {
 
     static void holds(String what, boolean condition) {
         due(what, condition, true);
+    }
+
+    /** Two looks at the same calls: prints the lines that differ. */
+    static void same(String when, List<String> got, List<String> want) {
+        if (got.equals(want)) {
+            return;
+        }
+        for (int i = 0; i < want.size(); i++) {
+            if (!got.get(i).equals(want.get(i))) {
+                wrong++;
+                System.out.println(when + ": " + got.get(i) + ", due is " + want.get(i));
+            }
+        }
     }
 
     static long event(long tick, int kind, int subject, int number) {
