@@ -16,7 +16,6 @@ public final class BuildTest {
         promise5FirstValues();
         promise6Clear();
         promise6ClearInTheMiddle();
-        promise6ClearedIsLikeNew();
         refusedCallsChangeNothing();
         Checks.finish("BuildTest");
     }
@@ -277,56 +276,6 @@ public final class BuildTest {
         Checks.next(net, 1, Checks.LEAVE, 0, 0);
         Checks.due("first quantum, less 1", net.deficit(0, 0), 7);
         Checks.next(net, 1, Checks.ARRIVE, 1, 0);
-    }
-
-    /** Cleared with 64 packets in the net, after arrivals, and with deficits left at a port. */
-    private static void promise6ClearedIsLikeNew() {
-        Net cleared = new Net();
-        for (int f = 0; f < 6; f++) {
-            cleared.link(f, f + 1, 1, 1, 40);
-            cleared.shape(2 * f, 1, 8);
-            cleared.flow(f / 2, 6, 100, 8 - f);
-            cleared.tune(f, 8, 20 + f, 0);
-        }
-        for (int n = 0; n < 7; n++) {
-            cleared.run(50);
-        }
-        int inNet = 0;
-        boolean deficitLeft = false;
-        for (int f = 0; f < 6; f++) {
-            inNet += cleared.count(f, 3) - cleared.count(f, 4) - cleared.count(f, 5);
-            deficitLeft |= cleared.deficit(4, f) > 0;
-        }
-        Checks.due("in the net before clear()", inNet, 64);
-        Checks.holds("deficits before clear()", deficitLeft);
-        Checks.holds("EXPECTED, arrived before clear()", cleared.count(5, 2) > 0 && cleared.count(5, 4) > 0);
-        cleared.clear();
-        Net fresh = new Net();
-        buildAgain(cleared);
-        buildAgain(fresh);
-        for (int n = 0; n < 15; n++) {
-            alike(cleared, fresh);
-            Checks.due("step()", cleared.step(), fresh.step());
-        }
-    }
-
-    private static void buildAgain(Net net) {
-        for (int f = 0; f < 6; f++) {
-            net.link(f, f + 1, 1, 1, 1);
-            net.flow(2, 6, 30, 1 + f);
-        }
-    }
-
-    private static void alike(Net net, Net other) {
-        Checks.due("trace(0)", net.trace(0), other.trace(0));
-        for (int f = 0; f < 6; f++) {
-            Checks.due("timer(" + f + ")", net.timer(f), other.timer(f));
-            Checks.due("deficit(4, " + f + ")", net.deficit(4, f), other.deficit(4, f));
-            Checks.due("onPort(" + 2 * f + ")", net.onPort(2 * f), other.onPort(2 * f));
-        }
-        for (int what = 0; what < 7; what++) {
-            Checks.due("count(5, " + what + ")", net.count(5, what), other.count(5, what));
-        }
     }
 
     private static void refusedCallsChangeNothing() {

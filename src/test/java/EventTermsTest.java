@@ -319,7 +319,7 @@ public final class EventTermsTest {
         int[] base = new int[30];
         int[] next = new int[30];
         int seen = 0;
-        while (net.step()) {
+        for (int n = 0; n < 29 && net.step(); n++) {
             if (net.count(0, 0) != (seen == 0 ? 0 : base[seen - 1])) {
                 base[seen] = net.count(0, 0);
                 next[seen] = net.count(0, 1);
@@ -625,6 +625,16 @@ public final class EventTermsTest {
         Checks.next(net, 13, Checks.ARRIVE, 1, 0);
         Checks.next(net, 16, Checks.LEAVE, 1, 1 + Checks.ANSWER);
         Checks.next(net, 19, Checks.ARRIVE, 1, 1);
+        arriveIsSetBeforeThePortChooses();
+    }
+
+    /** The delay is as long as the next packet needs: both for tick 12, the ARRIVE was set first. */
+    private static void arriveIsSetBeforeThePortChooses() {
+        Net net = simple(3, 6, 2, 2, 2, 200);
+        Checks.next(net, 0, Checks.START, 0, 0);
+        Checks.next(net, 6, Checks.LEAVE, 0, 0);
+        Checks.next(net, 12, Checks.ARRIVE, 1, 0);
+        Checks.next(net, 12, Checks.LEAVE, 0, 1);
     }
 
     /** "if that is not its end, it is put there": it neither arrives nor is answered there */

@@ -126,7 +126,7 @@ public final class FlowsTest {
         Checks.next(net, 5, Checks.ARRIVE, 1, 0);
         Checks.next(net, 5, Checks.ARRIVE, 0, 1);
         Checks.due("it waits", net.waiting(2, 1), 1);
-        while (net.count(1, 4) == 0 && net.step()) {
+        for (int n = 0; n < 50 && net.count(1, 4) == 0 && net.step(); n++) {
             Checks.due("EXPECTED of flow 1", net.count(1, 2), 0);
         }
         Checks.due("the second arrived", net.trace(0) % 1048576, Checks.event(0, Checks.ARRIVE, 1, 1));

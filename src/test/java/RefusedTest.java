@@ -42,62 +42,20 @@ public final class RefusedTest {
     private static List<State> states() {
         return List.of(
                 new State("new", false, false, net -> { }),
-                new State("built", false, false, RefusedTest::build),
-                new State("built, after run(0)", false, false, net -> {
-                    build(net);
-                    net.run(0);
-                }),
-                new State("full", false, true, RefusedTest::buildFull),
+                new State("built", false, false, Nets::small),
+                new State("built, after run(0)", false, false, Nets.then(Nets::small, 0)),
+                new State("full", false, true, Nets::full),
                 new State("cleared", false, false, net -> {
-                    buildFull(net);
-                    net.run(50);
+                    Nets.then(Nets::full, 50).accept(net);
                     net.clear();
                 }),
                 new State("begun without flows", true, false, Net::step),
-                new State("begun without flows by run(1)", true, false, net -> net.run(1)),
-                new State("after one event", true, false, net -> {
-                    build(net);
-                    net.step();
-                }),
-                new State("in the middle", true, false, net -> {
-                    build(net);
-                    net.run(40);
-                }),
-                new State("full, in the middle", true, true, net -> {
-                    buildFull(net);
-                    net.run(50);
-                    net.run(50);
-                }),
-                new State("at the end", true, false, net -> {
-                    net.link(0, 1, 1, 1, 0);
-                    net.flow(0, 1, 3, 1);
-                    Checks.due("events in all", net.run(50), 13);
-                }));
-    }
-
-    /** Small, but with losses, deficits and TIMEOUTs, so that every number that was given is felt later. */
-    private static void build(Net net) {
-        net.link(0, 1, 3, 2, 1);
-        net.link(1, 2, 5, 3, 4);
-        net.link(0, 2, 9, 1, 0);
-        net.shape(0, 3, 2);
-        net.shape(2, 5, 3);
-        net.flow(0, 2, 20, 4);
-        net.flow(2, 0, 10, 1);
-        net.flow(0, 1, 16, 8);
-        net.tune(0, 5, 30, 2);
-        net.tune(1, 3, 40, 0);
-    }
-
-    private static void buildFull(Net net) {
-        for (int l = 0; l < 12; l++) {
-            net.link(l % 7, l % 7 + 1, 3 + l, 1 + l, 3 * l);
-        }
-        for (int f = 0; f < 6; f++) {
-            net.flow(f, f == 0 ? 7 : f - 1, 20 + f, 8 - f);
-            net.tune(f, 8 - f, 20 + f, f);
-            net.shape(4 * f, 3 + f, 3);
-        }
+                new State("begun without flows by run(1)", true, false, Nets.then(net -> { }, 1)),
+                new State("after one event", true, false, Nets.then(Nets::small, 1)),
+                new State("in the middle", true, false, Nets.then(Nets::small, 40)),
+                new State("full, in the middle", true, true, Nets.then(Nets::full, 100)),
+                new State("with 64 in the net", true, false, Nets.then(Nets::crowded, 250)),
+                new State("at the end", true, false, Nets.then(Nets::brief, 13)));
     }
 
     private static List<Refused> wrongCalls() {
