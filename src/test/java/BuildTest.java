@@ -16,7 +16,6 @@ public final class BuildTest {
         promise5FirstValues();
         promise6Clear();
         promise6ClearInTheMiddle();
-        refusedCallsChangeNothing();
         Checks.finish("BuildTest");
     }
 
@@ -276,29 +275,5 @@ public final class BuildTest {
         Checks.next(net, 1, Checks.LEAVE, 0, 0);
         Checks.due("first quantum, less 1", net.deficit(0, 0), 7);
         Checks.next(net, 1, Checks.ARRIVE, 1, 0);
-    }
-
-    private static void refusedCallsChangeNothing() {
-        Net net = new Net();
-        net.link(0, 1, 3, 2, 1);
-        net.flow(0, 1, 3, 3);
-        Net same = new Net();
-        same.link(0, 1, 3, 2, 1);
-        same.flow(0, 1, 3, 3);
-        for (int round = 0; round < 30; round++) {
-            net.link(0, 1, 0, 1, 1);
-            net.link(1, 1, 1, 1, 1);
-            net.shape(0, 0, 1);
-            net.shape(0, 1, 9);
-            net.flow(1, 1, 1, 1);
-            net.tune(0, 1, 1, 1001);
-            net.tune(0, 9, 1, 1);
-            net.run(-1);
-            net.run(51);
-            Checks.due("run(1)", net.run(1), same.run(1));
-            Checks.due("trace(0)", net.trace(0), same.trace(0));
-            Checks.due("deficit(0, 0)", net.deficit(0, 0), same.deficit(0, 0));
-            Checks.due("timer(0)", net.timer(0), same.timer(0));
-        }
     }
 }

@@ -25,6 +25,7 @@ public final class RangesTest {
         eventsOfOneRun();
         placesOfTheTrace();
         kindsOfCount();
+        greatestPacketOnAPort();
         Checks.finish("RangesTest");
     }
 
@@ -430,5 +431,30 @@ public final class RangesTest {
             net.run(20);
             return net.count(0, what) != NONE;
         });
+    }
+
+    /** "256 * flow + number, + 128 if it is an answer": the last flow's last data, and their answer */
+    private static void greatestPacketOnAPort() {
+        Net net = linked();
+        for (int f = 0; f < 6; f++) {
+            net.flow(0, 1, 100, 1);
+            net.tune(f, 1, 200, f == 5 ? 0 : 1000);
+        }
+        // A START, and four events for each of 99 packets.
+        for (int n = 0; n < 7; n++) {
+            Checks.due("run(50)", net.run(50), 50);
+        }
+        Checks.due("run(47)", net.run(47), 47);
+        Checks.due("data 99 of flow 5", net.onPort(0), 5 * 256 + 99);
+        Checks.due("nothing on the port back", net.onPort(1), NONE);
+        Checks.next(net, 199, Checks.LEAVE, 0, 99);
+        Checks.next(net, 199, Checks.ARRIVE, 1, 99);
+        Checks.due("nothing on the port there", net.onPort(0), NONE);
+        Checks.due("answer 100 of flow 5", net.onPort(1), 5 * 256 + 100 + Checks.ANSWER);
+        Checks.next(net, 200, Checks.LEAVE, 1, 100 + Checks.ANSWER);
+        Checks.next(net, 200, Checks.ARRIVE, 0, 100 + Checks.ANSWER);
+        Checks.due("BASE is the count", net.count(5, 0), 100);
+        Checks.due("no timer", net.timer(5), NONE);
+        Checks.next(net, 1000, Checks.START, 0, 0);
     }
 }

@@ -8,7 +8,7 @@ public final class RefusedTest {
     private static final int NONE = DeficitNet.NONE;
     private static final int NO = 0;
 
-    private record State(String name, boolean begun, boolean full, Consumer<Net> recipe) {
+    private record State(String name, boolean begun, int links, int flows, Consumer<Net> recipe) {
         Net make() {
             Net net = new Net();
             recipe.accept(net);
@@ -23,11 +23,18 @@ public final class RefusedTest {
         int tried = 0;
         for (State state : states()) {
             List<Refused> calls = wrongCalls();
+            calls.add(shape(2 * state.links, 8, 4));
+            calls.add(tune(state.flows, 4, 100, 0));
             if (state.begun) {
                 calls.addAll(callsThatAreRefusedWhenBegun());
             }
-            if (state.full) {
-                calls.addAll(callsThatAreRefusedWhenFull());
+            if (state.links == 12) {
+                calls.add(link(0, 1, 1, 1, 0));
+                calls.add(link(0, 7, 1, 1, 0));
+            }
+            if (state.flows == 6) {
+                calls.add(flow(0, 1, 1, 1));
+                calls.add(flow(0, 7, 100, 8));
             }
             for (Refused refused : calls) {
                 changesNothing(state, refused);
@@ -41,21 +48,21 @@ public final class RefusedTest {
 
     private static List<State> states() {
         return List.of(
-                new State("new", false, false, net -> { }),
-                new State("built", false, false, Nets::small),
-                new State("built, after run(0)", false, false, Nets.then(Nets::small, 0)),
-                new State("full", false, true, Nets::full),
-                new State("cleared", false, false, net -> {
+                new State("new", false, 0, 0, net -> { }),
+                new State("built", false, 3, 3, Nets::small),
+                new State("built, after run(0)", false, 3, 3, Nets.then(Nets::small, 0)),
+                new State("full", false, 12, 6, Nets::full),
+                new State("cleared", false, 0, 0, net -> {
                     Nets.then(Nets::full, 50).accept(net);
                     net.clear();
                 }),
-                new State("begun without flows", true, false, Net::step),
-                new State("begun without flows by run(1)", true, false, Nets.then(net -> { }, 1)),
-                new State("after one event", true, false, Nets.then(Nets::small, 1)),
-                new State("in the middle", true, false, Nets.then(Nets::small, 40)),
-                new State("full, in the middle", true, true, Nets.then(Nets::full, 100)),
-                new State("with 64 in the net", true, false, Nets.then(Nets::crowded, 250)),
-                new State("at the end", true, false, Nets.then(Nets::brief, 13)));
+                new State("begun without flows", true, 0, 0, Net::step),
+                new State("begun without flows by run(1)", true, 0, 0, Nets.then(net -> { }, 1)),
+                new State("after one event", true, 3, 3, Nets.then(Nets::small, 1)),
+                new State("in the middle", true, 3, 3, Nets.then(Nets::small, 40)),
+                new State("full, in the middle", true, 12, 6, Nets.then(Nets::full, 100)),
+                new State("with 64 in the net", true, 6, 6, Nets.then(Nets::crowded, 250)),
+                new State("at the end", true, 1, 1, Nets.then(Nets::brief, 13)));
     }
 
     private static List<Refused> wrongCalls() {
@@ -156,16 +163,6 @@ public final class RefusedTest {
             calls.add(tune(flow, 1, 1, 0));
             calls.add(tune(flow, 8, 200, 1000));
         }
-        return calls;
-    }
-
-    private static List<Refused> callsThatAreRefusedWhenFull() {
-        List<Refused> calls = new ArrayList<>();
-        calls.add(link(0, 1, 1, 1, 0));
-        calls.add(link(0, 7, 1, 1, 0));
-        calls.add(flow(0, 1, 1, 1));
-        calls.add(shape(24, 8, 4));
-        calls.add(tune(6, 4, 100, 0));
         return calls;
     }
 
