@@ -352,11 +352,12 @@ public final class DeficitNet {
     private void fill(int f) {
         Flow flow = flows[f];
         int limit = Math.min(flow.base + flow.window, flow.count);
-        for (; flow.next < limit; flow.next++) {
+        for (int number = flow.next; number < limit; number++) {
             if (!hasTimer(f)) {
                 setTimer(f);
             }
-            put(make(f, flow.next, false), flow.source);
+            put(make(f, number, false), flow.source);
+            flow.next = number + 1;
         }
     }
 
